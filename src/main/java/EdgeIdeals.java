@@ -601,7 +601,7 @@ public final class EdgeIdeals {
         snapshot.taken = true;
         snapshot.vertices = graph.vertices;
         snapshot.matrix = graph.matrix;
-        snapshot.tests.copyFrom(tests);
+        snapshot.testTotal = tests.size;
         snapshot.list.copyFrom(list.row);
         return graph.vertices;
     }
@@ -611,7 +611,7 @@ public final class EdgeIdeals {
             return NOT_POSSIBLE;
         }
         replaceGraph(snapshot.vertices, snapshot.matrix);
-        tests.copyFrom(snapshot.tests);
+        tests.size = snapshot.testTotal;
         list.row.copyFrom(snapshot.list);
         history.size = 0;
         return graph.vertices;
@@ -1320,14 +1320,6 @@ public final class EdgeIdeals {
             return number;
         }
 
-        void copyFrom(TestList other) {
-            System.arraycopy(other.kinds, 0, kinds, 0, CAPACITY);
-            System.arraycopy(other.firsts, 0, firsts, 0, CAPACITY);
-            System.arraycopy(other.seconds, 0, seconds, 0, CAPACITY);
-            System.arraycopy(other.parts, 0, parts, 0, CAPACITY);
-            size = other.size;
-        }
-
         // Lower tests are answered first and each one once, however often it is used.
         boolean accepts(int test, int m, Ideal ideal) {
             int accepted = 0;
@@ -1617,16 +1609,16 @@ public final class EdgeIdeals {
         }
     }
 
+    /** The latest snapshot. Tests are only ever added after it, so their number tells which ones there were. */
     private static final class Snapshot {
         boolean taken;
         int vertices;
         long matrix;
-        final TestList tests;
+        int testTotal;
         final Row list;
 
         Snapshot() {
             taken = false;
-            tests = new TestList();
             list = new Row(LIST_CAPACITY);
         }
     }

@@ -206,6 +206,15 @@ public final class PromisesTest {
         due(13, "cover(LOW)", x.cover(LOW), -1);
         due(14, "height()", x.height(), 1);
         due(15, "bigHeight()", x.bigHeight(), 6);
+        // A star around the last vertex: the larger cover has the smaller bit set.
+        x.build(0);
+        for (int v = 0; v < 6; v++) {
+            x.toggleEdge(6, v);
+        }
+        due(13, "star around 6", x.cover(0), 63);
+        due(13, "star around 6", x.cover(1), 64);
+        due(14, "star around 6", x.height(), 1);
+        due(15, "star around 6", x.bigHeight(), 6);
         x.build(0);
         due(12, "without edges", x.coverCount(), 1);
         due(13, "without edges", x.cover(0), 0);
@@ -441,9 +450,29 @@ public final class PromisesTest {
         due(38, "one vertex", graph(1, 0).firstNonLinearStep(1, 1), -2);
         due(35, "one vertex", graph(1, 0).orderedGenerator(1, 1, 0), -2);
         due(35, "one vertex", graph(1, 0).orderedGenerator(1, 2, 0), -1);
-        // The answer must follow the graph.
-        x.build(4);
-        due(35, "after a change", x.orderedGenerator(1, 3214, 0), A + C);
+    }
+
+    private static void orderedAfterOtherCalls() {
+        EdgeIdeals x = graph(4, 2);
+        due(36, "colonVariables(1, 3214, 2)", x.colonVariables(1, 3214, 2), 4);
+        due(36, "colonVariables(1, 3211, 2)", x.colonVariables(1, 3211, 2), -1);
+        due(36, "a good order after a bad one", x.colonVariables(1, 3214, 2), 4);
+        due(35, "orderedGenerator(1, 0, 0)", x.orderedGenerator(1, 0, 0), -1);
+        due(36, "vertex 0 among them", x.colonVariables(1, 1234, 1), 1);
+        due(36, "another power", x.colonVariables(2, 1234, 1), 1);
+        due(35, "orderedGenerator(1, 1234, 0)", x.orderedGenerator(1, 1234, 0), A + B);
+        x.build(5);
+        due(35, "after a change", x.orderedGenerator(1, 1234, 0), A + C);
+        due(36, "after a change", x.colonVariables(1, 1234, 1), 4);
+        x.revertChange();
+        due(35, "after revertChange", x.orderedGenerator(1, 1234, 0), A + B);
+        x.takeSnapshot();
+        x.build(5);
+        due(35, "after a change", x.orderedGenerator(1, 1234, 0), A + C);
+        x.restoreSnapshot();
+        due(35, "after restoreSnapshot", x.orderedGenerator(1, 1234, 0), A + B);
+        x.setVertexCount(4);
+        due(35, "after setVertexCount", x.orderedGenerator(1, 1234, 0), -2);
     }
 
     private static void bettiNumbers() {
@@ -482,6 +511,7 @@ public final class PromisesTest {
         due(41, "addExponentTest(6, 1)", x.addExponentTest(6, 1), 2);
         due(41, "a vertex that does not exist", x.passCount(2), 0);
         due(42, "addSquareFreeTest()", x.addSquareFreeTest(), 3);
+        due(51, "the monomial 1 passes", x.passing(3, 0), 0);
         due(42, "passCount(3)", x.passCount(3), 4);
         due(42, "passes(3, 2A)", x.passes(3, 2 * A), 0);
         due(42, "passes(3, 3B)", x.passes(3, 3 * B), 0);
@@ -490,11 +520,15 @@ public final class PromisesTest {
         due(43, "addPowerTest(4)", x.addPowerTest(4), -1);
         due(43, "passCount(4)", x.passCount(4), 4);
         due(44, "addSymbolicTest(3)", x.addSymbolicTest(3), 5);
+        due(41, "addExponentTest(6, 3)", x.addExponentTest(6, 3), 6);
+        due(40, "addDegreeTest(21)", x.addDegreeTest(21), 7);
         due(44, "addSymbolicTest(0)", x.addSymbolicTest(0), -1);
         due(44, "addSymbolicTest(4)", x.addSymbolicTest(4), -1);
         due(44, "passCount(5)", x.passCount(5), 1);
         x.setVertexCount(7);
         due(41, "the vertex exists now", x.passes(2, G), 1);
+        due(41, "the vertex exists now", x.passCount(6), 4096);
+        due(40, "all exponents are 3", x.passing(7, 0), 16383);
         due(43, "the graph of the check", x.passCount(4), 0);
         due(44, "the graph of the check", x.passCount(5), 0);
         due(42, "the graph of the check", x.passCount(3), 128);
@@ -609,6 +643,17 @@ public final class PromisesTest {
         due(53, "fillWithGenerators(4)", x.fillWithGenerators(4), -1);
         due(53, "the list after an error", x.element(2), A + B + C);
         due(53, "fillWithGenerators(1)", x.fillWithGenerators(1), 21);
+        x.setVertexCount(5);
+        for (int edge : new int[] {1, 12, 13, 23, 4}) {
+            x.toggleEdge(edge / 10, edge % 10);
+        }
+        due(54, "24 fit", x.fillWithSymbolicGenerators(3), 24);
+        x.build(0);
+        for (int edge : new int[] {1, 2, 12, 3, 13, 4, 14}) {
+            x.toggleEdge(edge / 10, edge % 10);
+        }
+        due(53, "25 do not fit", x.fillWithGenerators(2), -3);
+        due(53, "the list stays", x.listSize(), 24);
         x.build(0);
         due(53, "without edges", x.fillWithGenerators(1), 0);
         due(54, "without edges", x.fillWithSymbolicGenerators(1), 0);
@@ -668,6 +713,31 @@ public final class PromisesTest {
         due(62, "swapElements(0, -1)", x.swapElements(0, -1), -2);
         due(62, "swapElements(LOW, HIGH)", x.swapElements(LOW, HIGH), -2);
         dueText(62, x, "b,e,d,c,a");
+    }
+
+    private static void fullList() {
+        EdgeIdeals x = new EdgeIdeals();
+        x.setVertexCount(7);
+        for (int i = 0; i < 24; i++) {
+            x.append(i < 12 ? F + (i % 4) * A : G + (i % 4) * A);
+        }
+        due(60, "24 elements", x.reverseList(), 24);
+        due(60, "24 elements", x.element(0), G + 3 * A);
+        due(61, "24 elements", x.rotateList(23), 24);
+        due(61, "24 elements", x.element(23), G + 3 * A);
+        due(61, "24 elements", x.rotateList(24), 24);
+        due(61, "24 elements", x.element(0), G + 2 * A);
+        due(62, "24 elements", x.swapElements(0, 23), 24);
+        due(63, "24 elements", x.indexOfDivisor(B), -2);
+        due(64, "24 elements", x.polarizedVariableCount(), 5);
+        due(65, "24 elements", x.polarized(23), 19);
+        due(66, "24 elements", x.hittingNumber(), 2);
+        due(72, "24 elements", x.saveList(0), 24);
+        due(59, "24 elements", x.divideListBy(0), 2);
+        dueText(59, x, "g,f");
+        due(73, "24 elements", x.loadList(0), 24);
+        due(58, "24 elements", x.minimizeList(), 2);
+        dueText(58, x, "g,f");
     }
 
     private static void divisorsAndPolarization() {
@@ -943,6 +1013,7 @@ public final class PromisesTest {
         symbolicGenerators();
         countingInPowers();
         linearQuotients();
+        orderedAfterOtherCalls();
         bettiNumbers();
         simpleTests();
         madeTests();
@@ -950,6 +1021,7 @@ public final class PromisesTest {
         listBasics();
         minimizing();
         reordering();
+        fullList();
         divisorsAndPolarization();
         input();
         parsing();

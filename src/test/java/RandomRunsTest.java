@@ -187,7 +187,7 @@ public final class RandomRunsTest {
     }
 
     public static void main(String[] args) {
-        int[] runsByVertices = {0, 5, 10, 40, 150, 120, 40, 15};
+        int[] runsByVertices = {0, 5, 20, 80, 300, 300, 100, 40};
         long seed = 1;
         for (int vertices = 1; vertices <= 7; vertices++) {
             for (int run = 0; run < runsByVertices[vertices]; run++) {

@@ -105,7 +105,8 @@ public final class RulesTest {
                     : Pattern.quote(word);
             Check.dueTrue("no '" + word + "' in the class", !Pattern.compile(pattern).matcher(code).find());
         }
-        Matcher method = Pattern.compile("(?m)^( {4}| {8})(?=\\w)[\\w\\[\\] ]+\\([^)]*\\) \\{\n(?s:.*?)^\\1\\}").matcher(text);
+        String beginning = "(?m)^( {4}| {8})(?=\\w)[\\w\\[\\] ]+\\([^)]*\\) \\{\n";
+        Matcher method = Pattern.compile(beginning + "(?s:.*?)^\\1\\}").matcher(text);
         int found = 0;
         while (method.find()) {
             found++;
