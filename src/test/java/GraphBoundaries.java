@@ -177,7 +177,8 @@ final class GraphBoundaries extends Boundaries {
     }
 
     private static void buildingRefused() {
-        says(4, "This is a recorded change, even if no edge changes.", "build that do not return an error are recorded");
+        says(4, "This is a recorded change, even if no edge changes.",
+                "build that do not return an error are recorded");
         EdgeIdeals x = new EdgeIdeals();
         x.build(0);
         due("no edges before and after", x.changeCount(), 1);
@@ -221,7 +222,8 @@ final class GraphBoundaries extends Boundaries {
             x.revertChange();
         }, EdgeIdeals::revertChange, NOT_POSSIBLE);
 
-        says(5, "Reverts the latest recorded change that was not yet reverted: the edges become those before that change.",
+        says(5,
+                "Reverts the latest recorded change that was not yet reverted: the edges become those before that change.",
                 "Returns the number of changes that can still be reverted");
         EdgeIdeals x = new EdgeIdeals();
         x.toggleEdge(0, 3);
@@ -250,6 +252,7 @@ final class GraphBoundaries extends Boundaries {
             due(changes + " changes", x.changeCount(), Math.min(changes, 12));
             for (int left = Math.min(changes, 12) - 1; left >= 0; left--) {
                 due(changes + " changes", x.revertChange(), left);
+                due(changes + " changes, " + left + " left", x.edgeCount(), left + Math.max(changes - 12, 0));
             }
             due(changes + " changes, no further", x.revertChange(), NOT_POSSIBLE);
             due(changes + " changes, the oldest stay", x.edgeCount(), Math.max(changes - 12, 0));
@@ -288,6 +291,8 @@ final class GraphBoundaries extends Boundaries {
         due("7 isolated vertices", graph(7, 0).componentCount(), 7);
         due("all edges", graph(7, 3).componentCount(), 1);
         due("a path", graph(7, 2).componentCount(), 1);
+        due("two edges", withEdges(4, 1, 23).componentCount(), 2);
+        due("two triangles and a vertex", withEdges(7, 2, 24, 40, 13, 35, 51).componentCount(), 3);
         due("a path whose numbers go to and fro", withEdges(7, 6, 61, 15, 52, 24, 43).componentCount(), 1);
         due("an edge, an isolated vertex between, a triangle", withEdges(6, 1, 34, 45, 53).componentCount(), 3);
 
@@ -317,7 +322,8 @@ final class GraphBoundaries extends Boundaries {
     }
 
     private static void covers() {
-        says(12, "Returns the number of minimal vertex covers.", "Returns the number of minimal vertex covers, at least 1.",
+        says(12, "Returns the number of minimal vertex covers.",
+                "Returns the number of minimal vertex covers, at least 1.",
                 "If there are no edges, the empty set is the only minimal vertex cover.");
         due("no edges", graph(7, 0).coverCount(), 1);
         due("one vertex", graph(1, 0).coverCount(), 1);
@@ -330,7 +336,8 @@ final class GraphBoundaries extends Boundaries {
         due("no edges", graph(7, 0).cover(1), NONE);
         due("one vertex", graph(1, 0).cover(0), 0);
         says(13, "Returns a minimal vertex cover as a bit set.", "It is minimal if no proper subset is a vertex cover.",
-                "A vertex cover is a set of vertices that contains at least one end of each edge.", "Returns the bit set;");
+                "A vertex cover is a set of vertices that contains at least one end of each edge.",
+                "Returns the bit set;");
         due("one edge", graph(2, 3).cover(0), 1);
         due("one edge", graph(2, 3).cover(1), 2);
         due("an isolated vertex is in no cover", withEdges(7, 56).cover(1), 64);
@@ -374,10 +381,36 @@ final class GraphBoundaries extends Boundaries {
         due("all edges", graph(7, 3).bigHeight(), 6);
     }
 
+    /** The covers of the present graph are asked for, whatever was asked before. */
+    private static void coversAnew() {
+        EdgeIdeals x = graph(7, 3);
+        int[][] answers = new int[3][];
+        for (int round = 0; round < 3; round++) {
+            answers[round] = new int[] {x.coverCount(), x.cover(0), x.cover(1), x.height(), x.bigHeight(),
+                x.symbolicOrder(16383)};
+            x.build(round == 0 ? 0 : 4);
+        }
+        int[][] wanted = {{7, 63, 95, 6, 6, 18}, {1, 0, NONE, 0, 0, 0}, {2, 1, 126, 1, 6, 3}};
+        for (int round = 0; round < 3; round++) {
+            says(12, "Returns the number of minimal vertex covers.");
+            due("graph " + round, answers[round][0], wanted[round][0]);
+            says(13, "Returns a minimal vertex cover as a bit set.");
+            due("graph " + round, answers[round][1], wanted[round][1]);
+            due("graph " + round, answers[round][2], wanted[round][2]);
+            says(14, "0 if there are no edges.");
+            due("graph " + round, answers[round][3], wanted[round][3]);
+            says(15, "0 if there are no edges.");
+            due("graph " + round, answers[round][4], wanted[round][4]);
+            says(22, "it is 0 if there are no edges.");
+            due("graph " + round, answers[round][5], wanted[round][5]);
+        }
+    }
+
     private static void elimination() {
         says(16, "Returns the number of vertices that simplicial elimination removes.",
                 "Returns the number of removed vertices", "It ends when no remaining vertex qualifies.",
-                "It starts with all vertices and repeats one step", "`complement`: 0 for the graph, 1 for its complement");
+                "It starts with all vertices and repeats one step",
+                "`complement`: 0 for the graph, 1 for its complement");
         due("a cycle of 4: none", graph(4, 1).eliminationLength(0), 0);
         due("its complement: all", graph(4, 1).eliminationLength(1), 4);
         due("a cycle of 5: none", graph(5, 1).eliminationLength(0), 0);
@@ -420,7 +453,8 @@ final class GraphBoundaries extends Boundaries {
             addEdges(y, 1, 12, 23, 30, 4);
         }, (y, i) -> y.eliminated(0, i), NONE, tooGreat(1));
 
-        says(18, "that is, whether simplicial elimination removes all vertices.", "Returns 1 if it is chordal, 0 if not;",
+        says(18, "that is, whether simplicial elimination removes all vertices.",
+                "Returns 1 if it is chordal, 0 if not;",
                 "`complement`: 0 for the graph, 1 for its complement");
         due("one vertex", graph(1, 0).isChordal(0), 1);
         due("one vertex", graph(1, 0).isChordal(1), 1);
@@ -442,6 +476,7 @@ final class GraphBoundaries extends Boundaries {
         reverting();
         simpleQuestions();
         covers();
+        coversAnew();
         elimination();
     }
 }

@@ -61,7 +61,8 @@ final class InputBoundaries extends Boundaries {
     }
 
     private static void reading() {
-        says(69, "Parses the input as a list of monomials, which replaces the list.", "Returns the new size of the list;",
+        says(69, "Parses the input as a list of monomials, which replaces the list.",
+                "Returns the new size of the list;",
                 "It is parsed as one or more monomials separated by single commas, at most 24.");
         EdgeIdeals x = withList("a,b,c");
         due("one monomial", parsed(x, "d"), 1);
@@ -71,8 +72,10 @@ final class InputBoundaries extends Boundaries {
         dueList("24 monomials", x, ones(24));
         fillList(x);
         due("the old list was full", parsed(x, "a,b"), 2);
-        says(69, "A monomial is either the digit 1 alone, which is the monomial 1, or one or more letters from a to g in",
-                "The letter a stands for variable 0, b for variable 1, and so on;", "without a digit the exponent is 1.");
+        says(69,
+                "A monomial is either the digit 1 alone, which is the monomial 1, or one or more letters from a to g in",
+                "The letter a stands for variable 0, b for variable 1, and so on;",
+                "without a digit the exponent is 1.");
         for (int v = 0; v < 7; v++) {
             due(LETTERS[v], parsed(x, LETTERS[v]), 1);
             due(LETTERS[v], x.element(0), 1 << 2 * v);
@@ -109,14 +112,17 @@ final class InputBoundaries extends Boundaries {
 
     private static void readingWrong() {
         says(69, "after a syntax error, -1000 minus the error position.", POSITION, "There are no spaces.",
-                "The input becomes empty, even after a syntax error.", "After a syntax error the list does not change.");
-        String[] beginnings = {"0", "2", "3", "4", "9", "h", "z", "`", "A", "G", ",", " ", "-", "\0", "\u00ff", "\u00e1"};
+                "The input becomes empty, even after a syntax error.",
+                "After a syntax error the list does not change.");
+        String[] beginnings = {"0", "2", "3", "4", "9", "h", "z", "`", "A", "G", ",", " ", "-", "\0", "\u00ff",
+                "\u00e1"};
         for (String wrongByte : beginnings) {
             wrong(wrongByte, 0);
             wrong("ab," + wrongByte, 3);
             wrong("1," + wrongByte + "a", 2);
         }
-        for (String wrongByte : new String[] {"0", "1", "4", "9", "h", "`", "A", " ", ".", ";", "\0", "\u00ff", "\u00e2"}) {
+        for (String wrongByte : new String[] {"0", "1", "4", "9", "h", "`", "A", " ", ".", ";", "\0", "\u00ff",
+                "\u00e2"}) {
             wrong("a" + wrongByte, 1);
             wrong("a2" + wrongByte, 2);
             wrong("1" + wrongByte, 1);
@@ -170,13 +176,15 @@ final class InputBoundaries extends Boundaries {
         feedAll(x, "c");
         due("nothing is left of the wrong input", x.parse(), 1);
         dueList("nothing is left of the wrong input", x, "c");
-        says(69, "After a syntax error the list does not change.", "A call that returns an error code leaves the state");
+        says(69, "After a syntax error the list does not change.",
+                "A call that returns an error code leaves the state");
         refused("the rest of the object", y -> y.discardInput(), y -> parsed(y, "c,a3ba"), -1005);
         refused("an empty input", y -> y.discardInput(), y -> y.parse(), -1000);
     }
 
     private static void formatting() {
-        says(70, "Returns the length of the list when it is formatted in the input syntax", "Returns the number of bytes;",
+        says(70, "Returns the length of the list when it is formatted in the input syntax",
+                "Returns the number of bytes;",
                 "The list is formatted in the same syntax, with the letters in ascending order and without a digit for");
         String[] texts = {"1", "a", "a2", "g3", "1,1", "a,1,b", "abcdefg", "a2bc3,ab", "b,a"};
         for (String text : texts) {

@@ -177,6 +177,16 @@ final class ListBoundaries extends Boundaries {
         dueList("exponent 0 takes nothing from the next variable", x, "b,c");
         due("an empty list", new EdgeIdeals().divideListBy(0), 0);
         due("the monomial 1", withList("1").divideListBy(3), 1);
+        x = graph(7, 0);
+        for (int code = 0; x.listSize() < 24; code++) {
+            // Of two monomials of the same degree none divides the other.
+            if (x.degree(code) == 4) {
+                x.append(code + 3 * G);
+            }
+        }
+        due("24 elements", x.divideListBy(6), 24);
+        due("the first of 24", x.element(0), 3 * A + B + 2 * G);
+        due("the last of 24", x.element(23), A + B + 2 * D + 2 * G);
         says(59, "and then minimizes the list as minimizeList does.");
         x = withList("ab,b");
         due("equal afterwards", x.divideListBy(0), 1);
@@ -218,7 +228,8 @@ final class ListBoundaries extends Boundaries {
         due("24 elements", full.element(0), 23);
         due("24 elements", full.element(23), 0);
 
-        says(61, "Moves the last elements of the list to its front, keeping their order.", "Returns the size of the list");
+        says(61, "Moves the last elements of the list to its front, keeping their order.",
+                "Returns the size of the list");
         EdgeIdeals x = withList("a,b,c,d,e");
         due("two", x.rotateList(2), 5);
         dueList("two", x, "d,e,a,b,c");
@@ -242,6 +253,11 @@ final class ListBoundaries extends Boundaries {
             due("24 elements by " + distance, full.element(0), distance == 23 ? 1 : 0);
             due("24 elements by " + distance, full.element(23), distance == 23 ? 0 : 23);
         }
+        x = withList("a,a2,b,c,d");
+        x.minimizeList();
+        x.rotateList(1);
+        due("several in a row", x.rotateList(2), 4);
+        dueList("several in a row", x, "b,c,d,a");
         says(61, "An empty list stays empty.");
         for (int distance : new int[] {0, 1, 24}) {
             x = new EdgeIdeals();
@@ -292,7 +308,8 @@ final class ListBoundaries extends Boundaries {
         refused("an empty list", y -> y.clearList(), y -> y.indexOfDivisor(0), NONE);
         refused("one exponent is too small", y -> parsed(y, "a2b2"), y -> y.indexOfDivisor(3 * A + B), NONE);
         refused("the monomial 1", y -> parsed(y, "a,g"), y -> y.indexOfDivisor(0), NONE);
-        refused("a variable of a vertex that does not exist", y -> parsed(y, "ag,g"), y -> y.indexOfDivisor(1023), NONE);
+        refused("a variable of a vertex that does not exist", y -> parsed(y, "ag,g"), y -> y.indexOfDivisor(1023),
+                NONE);
         says(63, "BAD_ARGUMENT if m is not a valid code;");
         refusedEach("3 elements, 1 among them", (y, m) -> y.indexOfDivisor(m), BAD_ARGUMENT, outside(0, 1023));
         refusedEach("an empty list", y -> y.clearList(), (y, m) -> y.indexOfDivisor(m), BAD_ARGUMENT,
@@ -302,12 +319,14 @@ final class ListBoundaries extends Boundaries {
     }
 
     private static void polarizing() {
-        says(64, "Returns the number of polarized variables, 0 to 21.", "Returns the number of polarized variables of the",
+        says(64, "Returns the number of polarized variables, 0 to 21.",
+                "Returns the number of polarized variables of the",
                 "each variable contributes as many polarized variables as its greatest exponent in the list.");
         due("an empty list", new EdgeIdeals().polarizedVariableCount(), 0);
         due("only the monomial 1", withList("1,1").polarizedVariableCount(), 0);
         due("the greatest number", withList("a3b3c3d3e3f3g3").polarizedVariableCount(), 21);
-        due("the greatest number, from several elements", withList("a3,b3c3,a2d3e3f,f3g3").polarizedVariableCount(), 21);
+        due("the greatest number, from several elements", withList("a3,b3c3,a2d3e3f,f3g3").polarizedVariableCount(),
+                21);
         due("greatest exponents, not sums", withList("a2b,ab2,a").polarizedVariableCount(), 4);
         says(64, ALL_SEVEN);
         EdgeIdeals x = withList("ag3");

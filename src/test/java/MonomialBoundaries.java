@@ -85,13 +85,15 @@ final class MonomialBoundaries extends Boundaries {
         due("the greatest", graph(7, 3).powerOrder(16383), 10);
         says(21, "`m`: a monomial code", "BAD_ARGUMENT if m is not a valid code.", CODES);
         for (int n = 1; n <= 7; n++) {
-            due("the greatest code, " + n + " vertices", graph(n, 3).powerOrder(GREATEST[n]), 3 * n / 2 - (n == 1 ? 1 : 0));
+            due("the greatest code, " + n + " vertices", graph(n, 3).powerOrder(GREATEST[n]),
+                    3 * n / 2 - (n == 1 ? 1 : 0));
         }
         invalidCodes("powerOrder", (y, m) -> y.powerOrder(m));
     }
 
     private static void symbolicOrders() {
-        says(22, "the smallest value, over all minimal vertex covers, of the sum of its exponents of the variables in the",
+        says(22,
+                "the smallest value, over all minimal vertex covers, of the sum of its exponents of the variables in the",
                 "Returns the symbolic order of a monomial", "Returns the symbolic order");
         EdgeIdeals x = graph(3, 3);
         due("no variable", x.symbolicOrder(0), 0);
@@ -179,7 +181,8 @@ final class MonomialBoundaries extends Boundaries {
         says(25, "BAD_ARGUMENT if a or b is not a valid code.", CODES);
         invalidPairs("lcm", (y, a, b) -> y.lcm(a, b));
 
-        says(26, "Returns the greatest common divisor of two monomials: for each variable the smaller of both exponents.",
+        says(26,
+                "Returns the greatest common divisor of two monomials: for each variable the smaller of both exponents.",
                 "Returns the code", "`a`: a monomial code", "`b`: a monomial code");
         due("1 and 1", x.gcd(0, 0), 0);
         due("1 and the greatest code", x.gcd(0, 16383), 0);

@@ -29,7 +29,8 @@ final class PowerBoundaries extends Boundaries {
         says(27, POWER_OUT);
         refusedEach("generatorCount", (x, s) -> x.generatorCount(s), BAD_ARGUMENT, outside(1, 3));
 
-        says(28, "Returns a minimal generator of the s-th power", "The generators are numbered from 0 in descending order",
+        says(28, "Returns a minimal generator of the s-th power",
+                "The generators are numbered from 0 in descending order",
                 "Returns the code;", POWER, "`i`: the number of the generator",
                 "Its exponents are at most 3, because s is at most 3.");
         EdgeIdeals x = graph(7, 3);
@@ -103,7 +104,8 @@ final class PowerBoundaries extends Boundaries {
         says(31, POWER_OUT);
         refusedEach("powersAgree", (x, s) -> x.powersAgree(s), BAD_ARGUMENT, outside(1, 3));
 
-        says(32, "Returns the lowest code of a minimal generator of the s-th symbolic power that does not lie in the s-th",
+        says(32,
+                "Returns the lowest code of a minimal generator of the s-th symbolic power that does not lie in the s-th",
                 "Returns the code;", POWER);
         due("a triangle", graph(3, 3).firstDifference(2), A + B + C);
         due("the lowest of 35", graph(7, 3).firstDifference(2), A + B + C);
@@ -168,7 +170,8 @@ final class PowerBoundaries extends Boundaries {
         due("2 vertices, degree 21", graph(2, 3).countInSymbolicPower(1, 21), 0);
         says(34, "BAD_ARGUMENT if s or degree is out of range.");
         refusedEach("countInSymbolicPower(.., 2)", (x, s) -> x.countInSymbolicPower(s, 2), BAD_ARGUMENT, outside(1, 3));
-        refusedEach("countInSymbolicPower(1, ..)", (x, d) -> x.countInSymbolicPower(1, d), BAD_ARGUMENT, outside(0, 21));
+        refusedEach("countInSymbolicPower(1, ..)", (x, d) -> x.countInSymbolicPower(1, d), BAD_ARGUMENT, outside(0,
+                21));
         refused("both", x -> x.countInSymbolicPower(4, -1), BAD_ARGUMENT);
     }
 
@@ -221,6 +224,7 @@ final class PowerBoundaries extends Boundaries {
         due("the second", x.orderedGenerator(2, 3715246, 1), 2 * C + G + A);
         due("the last in another order", x.orderedGenerator(2, 3715246, 160), 2 * D + 2 * F);
         due("two vertices", graph(2, 3).orderedGenerator(3, 21, 0), 15);
+        orderedAnew();
         says(35, "A vertex order is a decimal number with one digit for each vertex.",
                 "The digits, from the most significant one, are vertex numbers plus 1, and each vertex occurs exactly once.");
         due("one vertex: 1", graph(1, 0).orderedGenerator(1, 1, 0), NONE);
@@ -235,8 +239,38 @@ final class PowerBoundaries extends Boundaries {
         due("the last one is there", furnished().orderedGenerator(1, 12345, 5), D + E);
     }
 
+    /** Whatever was asked before, of the same object, the order, the power and the graph of the call count. */
+    private static void orderedAnew() {
+        EdgeIdeals x = graph(4, 2);
+        due("an order", x.orderedGenerator(1, 1234, 0), A + B);
+        due("another order", x.orderedGenerator(1, 4321, 0), C + D);
+        due("no order", x.orderedGenerator(1, 4320, 0), BAD_ARGUMENT);
+        due("0 is no order", x.orderedGenerator(1, 0, 0), BAD_ARGUMENT);
+        due("after no order", x.orderedGenerator(1, 4321, 0), C + D);
+        due("an order of which only the end is wrong", x.orderedGenerator(1, 1134, 0), BAD_ARGUMENT);
+        due("its colon variables afterwards", x.colonVariables(1, 4321, 1), 8);
+        due("another power", x.orderedGenerator(2, 4321, 0), 2 * C + 2 * D);
+        due("the first power again", x.orderedGenerator(1, 4321, 2), A + B);
+        x.toggleEdge(2, 3);
+        due("after toggleEdge", x.orderedGenerator(1, 4321, 0), B + C);
+        x.revertChange();
+        due("after revertChange", x.orderedGenerator(1, 4321, 0), C + D);
+        x.build(4);
+        due("after build", x.orderedGenerator(1, 4321, 0), A + D);
+        x.takeSnapshot();
+        x.build(3);
+        due("after another build", x.orderedGenerator(1, 4321, 1), B + D);
+        x.restoreSnapshot();
+        due("after restoreSnapshot", x.orderedGenerator(1, 4321, 1), A + C);
+        x.setVertexCount(4);
+        due("after setVertexCount", x.orderedGenerator(1, 4321, 0), NONE);
+        x.setVertexCount(5);
+        due("an order of fewer vertices", x.orderedGenerator(1, 4321, 0), BAD_ARGUMENT);
+    }
+
     private static void colonVariables() {
-        says(36, "Returns the colon variables of a generator as a bit set of vertices", POWER, "`order`: a vertex order",
+        says(36, "Returns the colon variables of a generator as a bit set of vertices", POWER,
+                "`order`: a vertex order",
                 "some earlier generator has exactly one more exponent of v than g and no greater exponent than g at any",
                 "`i`: the position, 0 for the first generator", "Returns the bit set;");
         due("the first: none is earlier", graph(7, 3).colonVariables(3, 1234567, 0), 0);
@@ -281,7 +315,8 @@ final class PowerBoundaries extends Boundaries {
         wrongSteps((y, s, order, i) -> y.isLinearStep(s, order, i));
         stepsTooFar((y, s, order, i) -> y.isLinearStep(s, order, i));
 
-        says(38, "Returns the position of the first generator whose step is not linear.", "Returns the position;", POWER,
+        says(38, "Returns the position of the first generator whose step is not linear.", "Returns the position;",
+                POWER,
                 "`order`: a vertex order");
         due("the second of two", withEdges(4, 1, 23).firstNonLinearStep(1, 1234), 1);
         due("not the last of two that are not linear", withEdges(6, 1, 23, 45).firstNonLinearStep(1, 123456), 1);

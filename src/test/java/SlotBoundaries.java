@@ -44,7 +44,8 @@ final class SlotBoundaries extends Boundaries {
         x.setVertexCount(1);
         due("the number of vertices does not matter", x.loadList(3), 3);
         due("the other slots are empty", x.loadList(2), EMPTY_SLOT);
-        says(73, "EMPTY_SLOT if the slot is empty;", "Each is empty or contains a list of monomials or an array of ints.");
+        says(73, "EMPTY_SLOT if the slot is empty;",
+                "Each is empty or contains a list of monomials or an array of ints.");
         due("a new object", new EdgeIdeals().loadList(0), EMPTY_SLOT);
         refusedEach("never used", (y, slot) -> y.loadList(slot), EMPTY_SLOT, 2, 3);
         refused("made empty again", y -> y.clearSlot(0), y -> y.loadList(0), EMPTY_SLOT);
@@ -148,7 +149,8 @@ final class SlotBoundaries extends Boundaries {
     }
 
     private static void readingArrays() {
-        says(77, "Returns an element of the array that a slot contains.", SLOT, "`i`: the index", "Returns the element;");
+        says(77, "Returns an element of the array that a slot contains.", SLOT, "`i`: the index",
+                "Returns the element;");
         EdgeIdeals x = furnished();
         due("an element", x.arrayElement(1, 2), -77);
         due("the first", x.arrayElement(1, 0), 0);
@@ -195,7 +197,8 @@ final class SlotBoundaries extends Boundaries {
             arrayOfGenerators(x, 0, x.generatorCount(s), s);
             due("equal, power " + s, x.firstMismatch(0, s), NONE);
         }
-        says(78, "If both are equal in all elements of the shorter one but have different lengths, the result is the smaller");
+        says(78,
+                "If both are equal in all elements of the shorter one but have different lengths, the result is the smaller");
         arrayOfGenerators(x, 0, 2, 1);
         due("an array of 2, 3 generators", x.firstMismatch(0, 1), 2);
         arrayOfGenerators(x, 0, 4, 1);
@@ -253,7 +256,8 @@ final class SlotBoundaries extends Boundaries {
         x.newArray(0, -1);
         due("a refused array", x.usedSlotCount(), 3);
 
-        says(80, "Returns the number of changes, 0 to 12.", "Returns the number of recorded changes that can be reverted.",
+        says(80, "Returns the number of changes, 0 to 12.",
+                "Returns the number of recorded changes that can be reverted.",
                 "Only the latest 12 that were not reverted can be reverted.");
         x = new EdgeIdeals();
         due("none", x.changeCount(), 0);
@@ -338,7 +342,8 @@ final class SlotBoundaries extends Boundaries {
     }
 
     private static void restoring() {
-        says(83, "NOT_POSSIBLE if no snapshot was taken.", "A call that returns an error code leaves the state unchanged");
+        says(83, "NOT_POSSIBLE if no snapshot was taken.",
+                "A call that returns an error code leaves the state unchanged");
         due("a new object", new EdgeIdeals().restoreSnapshot(), NOT_POSSIBLE);
         EdgeIdeals x = new EdgeIdeals();
         EdgeIdeals same = new EdgeIdeals();

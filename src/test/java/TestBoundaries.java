@@ -258,7 +258,8 @@ final class TestBoundaries extends Boundaries {
         refused("both", y -> y.passes(3, -1), BAD_ARGUMENT);
         due("no test is there", new EdgeIdeals().passes(0, 0), BAD_ARGUMENT);
 
-        says(50, "Returns the number of valid monomial codes that pass a test.", "`test`: the number of an existing test",
+        says(50, "Returns the number of valid monomial codes that pass a test.",
+                "`test`: the number of an existing test",
                 "Returns the number of codes");
         x = new EdgeIdeals();
         x.addExponentTest(6, 1);
@@ -278,7 +279,8 @@ final class TestBoundaries extends Boundaries {
     }
 
     private static void passing(EdgeIdeals x) {
-        says(51, "Returns a monomial that passes a test.", "`test`: the number of an existing test", "Returns the code;",
+        says(51, "Returns a monomial that passes a test.", "`test`: the number of an existing test",
+                "Returns the code;",
                 "The monomials that pass are numbered from 0 in ascending order of their codes.",
                 "`i`: the number of the monomial");
         due("the first of all", x.passing(1, 0), 0);
