@@ -244,8 +244,9 @@ final class PowerBoundaries extends Boundaries {
         EdgeIdeals x = graph(4, 2);
         due("an order", x.orderedGenerator(1, 1234, 0), A + B);
         due("another order", x.orderedGenerator(1, 4321, 0), C + D);
-        due("no order", x.orderedGenerator(1, 4320, 0), BAD_ARGUMENT);
         due("0 is no order", x.orderedGenerator(1, 0, 0), BAD_ARGUMENT);
+        due("the order once more", x.orderedGenerator(1, 4321, 0), C + D);
+        due("no order", x.orderedGenerator(1, 4320, 0), BAD_ARGUMENT);
         due("after no order", x.orderedGenerator(1, 4321, 0), C + D);
         due("an order of which only the end is wrong", x.orderedGenerator(1, 1134, 0), BAD_ARGUMENT);
         due("its colon variables afterwards", x.colonVariables(1, 4321, 1), 8);
