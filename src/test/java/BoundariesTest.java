@@ -1,5 +1,4 @@
 import java.io.IOException;
-import java.lang.reflect.Method;
 import java.nio.file.Files;
 import java.nio.file.Path;
 import java.util.regex.Matcher;
@@ -22,23 +21,11 @@ public final class BoundariesTest {
             Matcher call = Pattern.compile("(\\w+)\\(([-\\d, ]*)\\)\\s+=\\s+(-?\\d+)").matcher(example);
             while (call.find()) {
                 found++;
-                Check.dueTrue("the example " + call.group(), answerOf(x, call.group(1), call.group(2))
+                Check.dueTrue("the example " + call.group(), Calls.answerOf(x, call.group(1), call.group(2))
                         == Long.parseLong(call.group(3)));
             }
         }
         Check.dueTrue("40 calls are in the examples, found " + found, found == 40);
-    }
-
-    private static long answerOf(EdgeIdeals x, String name, String list) throws ReflectiveOperationException {
-        String[] texts = list.isEmpty() ? new String[0] : list.split(",");
-        Object[] arguments = new Object[texts.length];
-        Class<?>[] types = new Class<?>[texts.length];
-        for (int k = 0; k < texts.length; k++) {
-            arguments[k] = Integer.parseInt(texts[k].trim());
-            types[k] = int.class;
-        }
-        Method method = EdgeIdeals.class.getMethod(name, types);
-        return ((Number) method.invoke(x, arguments)).longValue();
     }
 
     public static void main(String[] args) throws IOException, ReflectiveOperationException {
